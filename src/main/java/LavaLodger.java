@@ -49,9 +49,10 @@ public final class LavaLodger {
     private final Village now = new Village();
     private final Past past = new Past();
     private final Village[] images = new Village[IMAGES];
-    private final Seer seer = new Seer();
-    private final Carrier carrier = new Carrier();
-    private final Turns turns = new Turns();
+    private final Forecast forecast = new Forecast();
+    private final Seer seer = new Seer(forecast);
+    private final Carrier carrier = new Carrier(forecast);
+    private final Turns turns = new Turns(forecast);
     private final Asker asker = new Asker();
     private int latestFinding = NO_FINDING;
 
@@ -1043,9 +1044,13 @@ public final class LavaLodger {
         private static final int TURNED_STONE = 1;
 
         private final Village trial = new Village();
-        private final Forecast forecast = new Forecast();
+        private final Forecast forecast;
         private final int[] heard = new int[MOST_TOLD];
         private int heardDays = 0;
+
+        Seer(Forecast forecast) {
+            this.forecast = forecast;
+        }
 
         int placeBehind(Village now, int thing, int n) {
             forecast.tell(now, n);
@@ -1383,13 +1388,17 @@ public final class LavaLodger {
         private static final int DAY_SETS = 1 << MOST_CARRIES;
 
         int fewest = 0;
-        private final Forecast forecast = new Forecast();
+        private final Forecast forecast;
         private final boolean[] stone = new boolean[MOST_THINGS * DAY_SETS];
         private final int[] choice = new int[MOST_CARRIES];
         private final int[] best = new int[MOST_CARRIES];
         private final int[] daysOf = new int[MOST_THINGS];
         private int things = 0;
         private int carries = 0;
+
+        Carrier(Forecast forecast) {
+            this.forecast = forecast;
+        }
 
         void search(Village now, int n, int m) {
             things = now.things;
@@ -1461,11 +1470,15 @@ public final class LavaLodger {
         private static final int OFTEN = MOST_TURNS / 2 + 1;
 
         private final Village trial = new Village();
-        private final Forecast forecast = new Forecast();
+        private final Forecast forecast;
         private final boolean[] stone = new boolean[OFTEN * OFTEN * MOST_THINGS];
         private final int[] carriedOf = new int[MOST_THINGS];
         private int raised = 0;
         private int things = 0;
+
+        Turns(Forecast forecast) {
+            this.forecast = forecast;
+        }
 
         int play(Village now, int n, int m) {
             things = now.things;
