@@ -49,10 +49,9 @@ public final class LavaLodger {
     private final Village now = new Village();
     private final Past past = new Past();
     private final Village[] images = new Village[IMAGES];
-    private final Forecast forecast = new Forecast();
-    private final Seer seer = new Seer(forecast);
-    private final Carrier carrier = new Carrier(forecast);
-    private final Turns turns = new Turns(forecast);
+    private final Seer seer = new Seer();
+    private final Carrier carrier = new Carrier();
+    private final Turns turns = new Turns();
     private final Asker asker = new Asker();
     private int latestFinding = NO_FINDING;
 
@@ -305,7 +304,7 @@ public final class LavaLodger {
         if (!isStreet()) {
             return STATE;
         }
-        if (!within(n, 1, Carrier.MOST_CARRIES) || !within(m, 0, 20) || k < -1) {
+        if (!within(n, 1, Carrier.MOST_CARRIES) || !within(m, 0, Carrier.MOST_AFTER) || k < -1) {
             return BAD;
         }
         carrier.search(now, n, m);
@@ -361,7 +360,7 @@ public final class LavaLodger {
         if (!isStreet()) {
             return STATE;
         }
-        if (!within(n, 0, Turns.MOST_TURNS) || !within(m, 1, 20)) {
+        if (!within(n, 0, Turns.MOST_TURNS) || !within(m, 1, Turns.MOST_AFTER)) {
             return BAD;
         }
         return turns.play(now, n, m);
@@ -1007,12 +1006,17 @@ public final class LavaLodger {
 
     /** How much lies where behind each of some DAYS, and where a THING comes to over them. */
     private static final class Forecast {
-        private final int[] lies = new int[(MOST_FORETOLD + 1) * MOST_ROOMS];
+        private final int mostDays;
+        private final int[] lies;
+
+        Forecast(int days) {
+            mostDays = Math.max(0, days);
+            lies = new int[(mostDays + 1) * MOST_ROOMS];
+        }
 
         void tell(Village village, int n) {
             System.arraycopy(village.lava, 0, lies, 0, MOST_ROOMS);
-            int most = Math.min(n, MOST_FORETOLD);
-            for (int d = 0; d < most; d++) {
+            for (int d = 0; d < n && d < mostDays; d++) {
                 int from = d * MOST_ROOMS;
                 System.arraycopy(lies, from, lies, from + MOST_ROOMS, MOST_ROOMS);
                 village.flow(lies, from + MOST_ROOMS, village.day + d);
@@ -1044,13 +1048,9 @@ public final class LavaLodger {
         private static final int TURNED_STONE = 1;
 
         private final Village trial = new Village();
-        private final Forecast forecast;
+        private final Forecast forecast = new Forecast(MOST_FORETOLD);
         private final int[] heard = new int[MOST_TOLD];
         private int heardDays = 0;
-
-        Seer(Forecast forecast) {
-            this.forecast = forecast;
-        }
 
         int placeBehind(Village now, int thing, int n) {
             forecast.tell(now, n);
@@ -1385,20 +1385,17 @@ public final class LavaLodger {
      */
     private static final class Carrier {
         static final int MOST_CARRIES = 4;
+        static final int MOST_AFTER = 20;
         private static final int DAY_SETS = 1 << MOST_CARRIES;
 
         int fewest = 0;
-        private final Forecast forecast;
+        private final Forecast forecast = new Forecast(MOST_CARRIES + MOST_AFTER);
         private final boolean[] stone = new boolean[MOST_THINGS * DAY_SETS];
         private final int[] choice = new int[MOST_CARRIES];
         private final int[] best = new int[MOST_CARRIES];
         private final int[] daysOf = new int[MOST_THINGS];
         private int things = 0;
         private int carries = 0;
-
-        Carrier(Forecast forecast) {
-            this.forecast = forecast;
-        }
 
         void search(Village now, int n, int m) {
             things = now.things;
@@ -1466,19 +1463,16 @@ public final class LavaLodger {
      */
     private static final class Turns {
         static final int MOST_TURNS = 4;
+        static final int MOST_AFTER = 20;
         private static final int RAISE = 3;
         private static final int OFTEN = MOST_TURNS / 2 + 1;
 
         private final Village trial = new Village();
-        private final Forecast forecast;
+        private final Forecast forecast = new Forecast(MOST_AFTER);
         private final boolean[] stone = new boolean[OFTEN * OFTEN * MOST_THINGS];
         private final int[] carriedOf = new int[MOST_THINGS];
         private int raised = 0;
         private int things = 0;
-
-        Turns(Forecast forecast) {
-            this.forecast = forecast;
-        }
 
         int play(Village now, int n, int m) {
             things = now.things;

@@ -70,7 +70,8 @@ public final class FaceTest {
         for (Class<?> type : m.getParameterTypes()) {
             types.add(type.getName());
         }
-        return m.getReturnType().getName() + " " + m.getName() + "(" + String.join(",", types) + ")";
+        String given = "(" + String.join(",", types) + ")";
+        return m.getReturnType().getName() + " " + m.getName() + given;
     }
 
     private static void classesInside() {

@@ -140,6 +140,7 @@ public final class PromisesTest {
         due.is("its lane stays", x.set(0, 0, 300), 44);
         due.is("row(0, 1, 40)", x.row(0, 1, 40), 40);
         due.is("in place of what is there", item(x, 0, 39), 0);
+        due.is("of its first item, too", item(x, 0, 0), 0);
         due.is("its lane is another", x.set(0, 0, 300), 300);
         due.is("count(0) again", x.count(0), 2);
         due.is("row(0, 1, 2)", x.row(0, 1, 2), 2);
@@ -519,6 +520,18 @@ public final class PromisesTest {
         due.is("dig(6)", x.dig(6), BAD);
         due.is("dig(-1)", x.dig(-1), BAD);
         due.is("acts", x.count(7), 4);
+        LavaLodger first = stoneInFirstRoom();
+        due.is("in room 0", first.dig(0), 0);
+        due.is("out of room 0", first.thing(0, 1), 20);
+    }
+
+    // On DAY 1 a table does not flee: ROOM 0 is the one place that hardly any is kept in.
+    private static LavaLodger stoneInFirstRoom() {
+        LavaLodger x = Due.told("v0,60;r0;r0;r0;t0,1;");
+        x.days(1);
+        x.feeding(4);
+        due.is("kept in room 0", x.days(1), 1);
+        return x;
     }
 
     private static void thing() {
@@ -532,6 +545,7 @@ public final class PromisesTest {
         due.is("lava around it", x.thing(0, 2), 4);
         due.is("out", x.thing(1, 1), 20);
         due.is("no lava on the road", x.thing(1, 2), 0);
+        due.is("stone in room 0", stoneInFirstRoom().thing(0, 1), 30);
         due.is("thing(0, 3)", x.thing(0, 3), BAD);
         due.is("thing(0, -1)", x.thing(0, -1), BAD);
         due.is("thing(6, 0)", x.thing(6, 0), BAD);
@@ -644,6 +658,8 @@ public final class PromisesTest {
         due.is("touched by now", x.when(0, 0), 0);
         due.is("out by now", x.when(1, 2), 0);
         due.is("out is not touched", x.when(1, 0), NONE);
+        due.is("stone in room 0", stoneInFirstRoom().when(0, 1), 0);
+        due.is("who is stone there", stoneInFirstRoom().roomOf(0, 4), 1);
         LavaLodger late = Due.told("v0,60;r0;r0;r0;c2,1;");
         due.is("never touched", late.when(0, 0), NONE);
         // A WALL of 9 holds 1 a DAY back till there are 11: ROOM 0 alone is wet for 10 DAYS.
@@ -685,6 +701,14 @@ public final class PromisesTest {
         LavaLodger lost = Due.told(FLAT + "c0,1;");
         due.is("lost anyway", lost.carries(1, 0, -1), 1);
         due.is("of several the first", lost.carries(1, 0, 0), 0);
+        LavaLodger all = Due.told(FLAT + "c0,1;c0,1;c0,1;c0,1;c0,1;c0,1;");
+        due.is("all are lost", all.carries(1, 20, -1), 6);
+        due.is("the first row of them", all.carries(1, 20, 0), 0);
+        // The WALL holds on DAY 0, but not on DAY 1, when the table does not flee.
+        LavaLodger later = Due.told(FLAT + "c2,9;t2,1;");
+        later.wall(0, 9);
+        due.is("more days", later.carries(1, 1, -1), 0);
+        due.is("the one that is kept then", later.carries(1, 1, 0), 1);
         // On DAY 1 a table stays where it is, and all that is fed lies one ROOM on.
         LavaLodger none = Due.told("v0,60;r5;r0;r9;t0,2;");
         none.days(1);
@@ -931,6 +955,7 @@ public final class PromisesTest {
         due.is("what 2", x.gives(0, 1, 1, 2), BAD);
         due.is("what -1", x.gives(0, 1, 1, -1), BAD);
         due.is("nothing changes", x.roomOf(0, 2), 9);
+        fraction(stoneInFirstRoom(), 3, 5, 0, 1);
         LavaLodger many = Due.told("v20,60;r0;r0;r0;r0;r0;r0;r0;r0;r0;r0;t9,1;");
         for (int w = 0; w < 10; w++) {
             many.wall(w, 1);

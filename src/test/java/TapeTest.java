@@ -29,7 +29,8 @@ public final class TapeTest {
             numbers[fault[0]]++;
         }
         due.about("the texts");
-        due.is("most faults and streets are among them", Math.min(faults, TEXTS - faults) > TEXTS / 10);
+        due.is("faults", faults > TEXTS / 10);
+        due.is("streets", faults < TEXTS - TEXTS / 10);
         due.is("each fault is", numbers[1] > 500 && numbers[2] > 500 && numbers[3] > 500);
         due.end();
     }
@@ -106,7 +107,8 @@ public final class TapeTest {
             if (token.type() == '.') {
                 return new int[] {0, 0};
             }
-            if (token.type() == 'r' && rooms == 10 || "cltpa".indexOf(token.type()) >= 0 && things == 6) {
+            boolean isThing = "cltpa".indexOf(token.type()) >= 0;
+            if (token.type() == 'r' && rooms == 10 || isThing && things == 6) {
                 return new int[] {3, token.place()};
             }
             since.append(token.type());
@@ -120,7 +122,8 @@ public final class TapeTest {
                 since.setLength(0);
                 due = things > 0 ? "cltpa." : rooms < 3 ? "r" : "rcltpa";
             } else {
-                due = token.type() == 'n' ? part.equals("rn") || part.length() == 4 ? ";" : "," : "n";
+                String behind = part.equals("rn") || part.length() == 4 ? ";" : ",";
+                due = token.type() == 'n' ? behind : "n";
             }
         }
         throw new IllegalStateException("a text without an end");

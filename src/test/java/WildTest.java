@@ -1,6 +1,7 @@
 import java.lang.reflect.Method;
 import java.lang.reflect.Modifier;
 import java.util.ArrayList;
+import java.util.Arrays;
 import java.util.Comparator;
 import java.util.List;
 
@@ -53,7 +54,7 @@ public final class WildTest {
             call.invoke(x, given);
         } catch (ReflectiveOperationException e) {
             answered = false;
-            System.out.println(call.getName() + java.util.Arrays.toString(given) + ": " + e.getCause());
+            System.out.println(call.getName() + Arrays.toString(given) + ": " + e.getCause());
         }
         due.is(call.getName(), answered);
     }
