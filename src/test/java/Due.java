@@ -1,11 +1,38 @@
+import java.io.IOException;
+import java.nio.file.Files;
+import java.nio.file.Path;
+
 /** What the tests share: a tally of answers that are not as due, and how a text is told. */
 final class Due {
+    private static final Path DOCUMENT = Path.of("../shared/DOC.md");
+
     private int wrong = 0;
     private int looked = 0;
     private String about = "";
+    private String document = "";
 
     void about(String text) {
         about = text;
+    }
+
+    /**
+     * The sentence of the document (or the part of it) that the next answers hold to. It must
+     * stand there just so, else the test would hold the class to something that nobody promised.
+     */
+    void says(String sentence) {
+        about(sentence);
+        if (document.isEmpty()) {
+            document = readDocument();
+        }
+        is("the document says so", document.contains(sentence));
+    }
+
+    private static String readDocument() {
+        try {
+            return Files.readString(DOCUMENT).replaceAll("\\s+", " ");
+        } catch (IOException e) {
+            throw new IllegalStateException("no document at " + DOCUMENT, e);
+        }
     }
 
     void is(String call, long got, long want) {
