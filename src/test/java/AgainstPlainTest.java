@@ -36,6 +36,9 @@ public final class AgainstPlainTest {
             act();
             standsAsPlain();
             foretoldAsPlain();
+            if (act % 7 == 0) {
+                foretoldAtTheEnds();
+            }
         }
         for (int left = past.size() - 1; left >= 0; left--) {
             due.is("undo()", x.undo(), left);
@@ -178,13 +181,7 @@ public final class AgainstPlainTest {
     private void searchedAsPlain() {
         int n = pick(0, 4) == 0 ? 4 : pick(1, 3);
         int m = pick(0, 20);
-        int[] best = s.carries(n, m);
-        due.is("carries(" + n + ", " + m + ", -1)", x.carries(n, m, -1), best[0]);
-        for (int k = 0; k < n; k++) {
-            due.is("carries(" + n + ", " + m + ", " + k + ")", x.carries(n, m, k),
-                    best[k + 1] < 0 ? NONE : best[k + 1]);
-        }
-        due.is("carries(" + n + ", " + m + ", n)", x.carries(n, m, n), NONE);
+        carriedAsPlain(n, m);
         int v = pick(1, 9);
         int d = pick(1, 40);
         int[] dam = s.dam(v, d);
@@ -199,6 +196,62 @@ public final class AgainstPlainTest {
         due.is("byTurns(" + turns + ", " + m + ")", x.byTurns(turns, m), s.byTurns(0, turns, m));
     }
 
+    private void carriedAsPlain(int n, int m) {
+        int[] best = s.carries(n, m);
+        due.is("carries(" + n + ", " + m + ", -1)", x.carries(n, m, -1), best[0]);
+        for (int k = 0; k < n; k++) {
+            due.is("carries(" + n + ", " + m + ", " + k + ")", x.carries(n, m, k),
+                    best[k + 1] < 0 ? NONE : best[k + 1]);
+        }
+        due.is("carries(" + n + ", " + m + ", n)", x.carries(n, m, n), NONE);
+    }
+
+    private void givenAsPlain(int t, int d, int p) {
+        BigInteger above = BigInteger.valueOf(s.spared(t, d, p, 0));
+        BigInteger below = BigInteger.valueOf(s.cases());
+        BigInteger both = above.gcd(below);
+        String call = "gives(" + t + ", " + d + ", " + p + ", ";
+        due.is(call + "0)", x.gives(t, d, p, 0), above.divide(both).longValue());
+        due.is(call + "1)", x.gives(t, d, p, 1), below.divide(both).longValue());
+    }
+
+    // At hazard the ends of a range come seldom, and they are where it would go wrong.
+    private void foretoldAtTheEnds() {
+        PlainStreet later = s.twin().days(60);
+        for (int t = 0; t < s.ones.size(); t++) {
+            due.is("ahead(" + t + ", 0)", x.ahead(t, 0), s.ones.get(t).where());
+            due.is("ahead(" + t + ", 60)", x.ahead(t, 60), later.ones.get(t).where());
+            givenAsPlain(t, 40, 0);
+            givenAsPlain(t, 40, 10);
+            givenAsPlain(t, 0, pick(0, 10));
+        }
+        for (int r = 0; r < s.rooms(); r++) {
+            due.is("lava(" + r + ", 60)", x.lava(r, 60), later.lava[r]);
+            for (int w = 0; w < s.rooms(); w++) {
+                due.is("hold(" + r + ", " + w + ", 40)", x.hold(r, w, 40), s.hold(r, w, 40));
+                due.is("hold(" + r + ", " + w + ", 1)", x.hold(r, w, 1), s.hold(r, w, 1));
+            }
+        }
+        due.is("kept(60, 0)", x.kept(60, 0), later.stones());
+        due.is("kept(60, 1)", x.kept(60, 1), later.outs());
+        due.is("front(60)", x.front(60), s.front(60));
+        due.is("spare(40)", x.spare(40), s.spare(40));
+        due.is("spare(1)", x.spare(1), s.spare(1));
+        due.is("byTurns(4, 20)", x.byTurns(4, 20), s.byTurns(0, 4, 20));
+        due.is("byTurns(0, 1)", x.byTurns(0, 1), s.byTurns(0, 0, 1));
+        for (int v = 1; v <= 9; v += 8) {
+            due.is("dam(" + v + ", 40, 0)", x.dam(v, 40, 0), s.dam(v, 40)[0]);
+            due.is("dam(" + v + ", 40, 1)", x.dam(v, 40, 1), s.dam(v, 40)[1]);
+        }
+        for (int x0 = 1; x0 <= 999999; x0 += 999998) {
+            int[] became = s.drawn(60, x0);
+            due.is("drawn(60, " + x0 + ", 0)", x.drawn(60, x0, 0), became[0]);
+            due.is("drawn(60, " + x0 + ", 1)", x.drawn(60, x0, 1), became[1]);
+        }
+        carriedAsPlain(4, 20);
+        carriedAsPlain(1, 0);
+    }
+
     private void countedAsPlain(int t) {
         int v = pick(0, 3) == 0 ? pick(0, 54) : pick(0, 15);
         int[] sets = s.sets(v);
@@ -210,14 +263,7 @@ public final class AgainstPlainTest {
         for (int one = 0; one < parts.length; one++) {
             due.is("share(" + one + ", " + n + ")", x.share(one, n), parts[one]);
         }
-        int d = pick(0, 40);
-        int p = pick(0, 10);
-        BigInteger above = BigInteger.valueOf(s.spared(t, d, p, 0));
-        BigInteger below = BigInteger.valueOf(s.cases());
-        BigInteger both = above.gcd(below);
-        String call = "gives(" + t + ", " + d + ", " + p + ", ";
-        due.is(call + "0)", x.gives(t, d, p, 0), above.divide(both).longValue());
-        due.is(call + "1)", x.gives(t, d, p, 1), below.divide(both).longValue());
+        givenAsPlain(t, pick(0, 40), pick(0, 10));
         int years = pick(0, 60);
         int x0 = pick(1, 999999);
         int[] became = s.drawn(years, x0);

@@ -13,7 +13,64 @@ public final class TapeTest {
     private record Token(char type, int place, int value) {
     }
 
+    // As much as there can be, and as little, told in both ways in which a NUMBER can be.
+    private static final String LONGEST = "v20,60;r09;r08;r07;r06;r05;r04;r03;r02;r01;r00;"
+            + "c09,09;l08,08;t07,07;p06,06;a05,05;c04,04;";
+    private static final String SHORTEST = "v0,0;r0;r0;r0;c0,1;";
+
     public static void main(String[] args) {
+        everyEnd(LONGEST);
+        everyEnd(SHORTEST);
+        everyByte(LONGEST);
+        everyByte(SHORTEST);
+        everyNumber();
+        atHazard();
+        due.end();
+    }
+
+    // At the end of a text, and in the midst of it: there the fault must not be told further on.
+    private static void everyByte(String text) {
+        for (int at = 0; at <= text.length(); at++) {
+            for (int letter = 0; letter < 256; letter++) {
+                asRead(text.substring(0, at) + (char) letter);
+                if (at < text.length()) {
+                    asRead(text.substring(0, at) + (char) letter + text.substring(at + 1));
+                }
+            }
+        }
+    }
+
+    private static void everyEnd(String text) {
+        for (int bytes = 0; bytes <= text.length(); bytes++) {
+            asRead(text.substring(0, bytes));
+        }
+    }
+
+    private static void everyNumber() {
+        String[][] around = {{"v", ",0;r0;r0;r0;c0,1;"}, {"v0,", ";r0;r0;r0;c0,1;"},
+            {"v0,0;r", ";r0;r0;c0,1;"}, {"v0,0;r0;r0;r", ";c0,1;"}, {"v0,0;r0;r0;r0;c", ",1;"},
+            {"v0,0;r0;r0;r0;c2,", ";"}, {"v0,0;r0;r0;r0;r0;r0;r0;r0;r0;r0;r0;a", ",9;"}};
+        for (String[] parts : around) {
+            for (int v = 0; v <= 1010; v++) {
+                asRead(parts[0] + v + parts[1]);
+                asRead(parts[0] + "0" + v + parts[1]);
+                asRead(parts[0] + v);
+            }
+            asRead(parts[0] + parts[1]);
+        }
+    }
+
+    private static void asRead(String text) {
+        int[] fault = read(text);
+        due.about(text);
+        LavaLodger x = new LavaLodger();
+        due.is("street()", Due.tell(x, text), fault[0] == 0 ? things(text) : -1000100 - fault[1]);
+        due.is("fault()", x.fault(), fault[0]);
+        due.is("count(8)", x.count(8), 0);
+        due.is("count(1)", x.count(1), fault[0] == 0 ? things(text) : 0);
+    }
+
+    private static void atHazard() {
         int faults = 0;
         int[] numbers = new int[4];
         for (int k = 0; k < TEXTS; k++) {
@@ -32,7 +89,6 @@ public final class TapeTest {
         due.is("faults", faults > TEXTS / 10);
         due.is("streets", faults < TEXTS - TEXTS / 10);
         due.is("each fault is", numbers[1] > 500 && numbers[2] > 500 && numbers[3] > 500);
-        due.end();
     }
 
     private static int pick(int below) {
