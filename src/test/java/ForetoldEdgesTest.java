@@ -187,10 +187,17 @@ public final class ForetoldEdgesTest {
         LavaLodger now = Due.told("v1,1;r9;r9;r2;c0,9;");
         now.days(1);
         due.is("room 0 now", now.front(0), 0);
+        // What lies there on later DAYS is not seen on earlier ones, whichever is asked first.
+        LavaLodger ten = Due.told("v20,60;r9;r8;r7;r6;r5;r4;r3;r2;r1;r0;c0,9;");
+        due.is("of ten rooms behind 60", ten.front(60), 9);
+        due.is("of ten rooms now", ten.front(0), NONE);
+        ten.wall(2, 9);
+        due.is("of ten rooms behind a wall", ten.front(1), 2);
         LavaLodger away = Due.told("v2,1;r9;r5;r2;c0,9;");
         due.is("all has gone out", away.front(1), NONE);
         LavaLodger burst = walled("v1,60;r4;r0;r9;r8;r0;r0;r0;r5;r2;t4,1;", 0,
                 8, 5, 8, 0, 0, 0, 0, 0, 8);
+        due.is("behind 60, asked first", burst.front(60), 4);
         due.is("behind 59", burst.front(59), 2);
         due.is("behind 60", burst.front(60), 4);
     }
@@ -232,6 +239,14 @@ public final class ForetoldEdgesTest {
         four.feeding(8);
         row("three are too few", four, 3, 20, 1, 0, 0, 0);
         row("four are enough", four, 4, 19, 0, 1, 1, 0, 1);
+        // All six are lost, so that every row is as good: the first, not the one that was asked last.
+        LavaLodger six = onDayOne(5, "t0,9;t0,5;t0,9;t0,9;t0,9;t0,9;");
+        six.wall(0, 9);
+        row("of six one is in danger", six, 1, 0, 0, 1);
+        six.feeding(9);
+        due.is("all six are stone", six.days(1), 63);
+        row("of six none is left", six, 1, 0, 6, 0);
+        row("of six none is left for four days", six, 4, 20, 6, 0, 0, 0, 0);
         LavaLodger late = walled("v1,60;r4;r4;r0;r8;r7;r3;t2,1;t5,1;t3,1;", 0, 9, 9, 5, 7, 0, 0);
         late.feeding(6);
         due.is("19 days more", late.carries(4, 19, -1), 0);
@@ -284,6 +299,9 @@ public final class ForetoldEdgesTest {
         all.days(1);
         due.is("all six are stone", all.count(5), 6);
         damIs("no wall helps them", all, 9, 40, 0, 6);
+        // Five are lost anyway, and the sixth, too, but for WALL 1.
+        LavaLodger five = onDayOne(9, "t0,1;t0,1;t0,1;t0,1;t0,1;t2,1;");
+        damIs("five of six", five, 3, 1, 1, 5);
         LavaLodger lower = onDayOne(9, "t1,1;");
         lower.wall(0, 9);
         damIs("a lower wall in place of a higher one", lower, 1, 1, 1, 0);
@@ -431,6 +449,7 @@ public final class ForetoldEdgesTest {
         LavaLodger one = allOut("c2,7;");
         shared("one alone", one, 999, 999);
         shared("one alone", one, 0, 0);
+        shared("the lowest alone", allOut("c2,1;"), 999, 999);
         LavaLodger some = flat(0, "c2,9;c2,1;c0,9;c2,1;");
         shared("none is out", some, 10, 0, 0, 0, 0);
         some.carry(1);
@@ -460,6 +479,8 @@ public final class ForetoldEdgesTest {
         turnsAre("6 more is just enough", "t0,9;t0,9;t0,9;", 3, 0, 0, 0, 0, 1);
         turnsAre("6 more is not enough", "t0,9;t0,9;t0,9;", 2, 0, 0, 0, 0, 0);
         turnsAre("FEED 0", "t0,3;t0,3;t0,3;", 0, 0, 0, 2, 1, 1);
+        turnsAre("six", "t0,7;t0,7;t0,7;t0,7;t0,7;t0,7;", 4, 0, 0, 5, 4, 4);
+        turnsAre("six, and the last alone in danger", "t1,9;t1,9;t1,9;t1,9;t1,9;t0,4;", 4, 1, 0, 0, 0, 0);
         due.says("the aunt wants that little, the dresser great: what comes of it.");
         // With FEED 17 and a WALL of 9 ROOM 0 keeps 13 and ROOM 1 has 4; with 20 it has 5.
         LavaLodger most = Due.told("v0,60;r0;r0;r0;t1,5;t1,5;t1,6;");

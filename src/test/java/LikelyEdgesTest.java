@@ -287,6 +287,14 @@ public final class LikelyEdgesTest {
         for (int w = 0; w < 10; w++) {
             late.wall(w, walls[w]);
         }
+        // Fed 8 on DAY 0 the WALL holds it; fed 8 on DAY 1, too, 1 comes to the table.
+        LavaLodger stops = Due.told("v8,1;r0;r0;r0;t2,1;");
+        stops.wall(0, 9);
+        fraction("STOP is 1", stops, 2, 0, 1, 1);
+        LavaLodger goesOn = Due.told("v8,2;r0;r0;r0;t2,1;");
+        goesOn.wall(0, 9);
+        fraction("STOP is 2", goesOn, 2, 0, 0, 1);
+        fraction("STOP is 2, and the table goes out at once", goesOn, 2, 10, 1, 1);
         due.says("how likely a THING is not STONE behind n DAYS (0 to 40): a fraction.");
         fraction("behind 39", late, 39, 3, 86023, 100000);
         fraction("behind 40", late, 40, 3, 10367, 12500);
