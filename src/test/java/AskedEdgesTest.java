@@ -11,6 +11,7 @@ public final class AskedEdgesTest {
 
     public static void main(String[] args) {
         kinds();
+        eachBody();
         bodies();
         roomOfOneThatIsOut();
         traces();
@@ -51,6 +52,30 @@ public final class AskedEdgesTest {
         for (int i = bodies.length; i <= 17; i++) {
             due.is("trace(" + i + ") of " + call, x.trace(i), NONE);
         }
+    }
+
+    private static void eachBody() {
+        due.says("4 ASKS of THINGS, by BODIES, each of which leaves its number in THE TRACE as it begins (the "
+                + "first 16)");
+        LavaLodger x = Due.told("v0,60;r0;r0;r0;c1,2;l1,2;t1,2;p1,2;a1,2;");
+        due.says("11 of CHAIRS: what 10 gives, and MARK.");
+        asks(x, 0, 0, 2 + (0 + 1), 11, 10, 21, 20);
+        due.says("12 of CLOCKS: 0 less what 11 gives.");
+        asks(x, 1, 0, 0 - (2 + 2 * (1 + 1)), 12, 11, 10, 24, 21, 20);
+        due.says("13 of PERSONS: what 10 gives, less 100.");
+        asks(x, 3, 0, 2 - 100, 13, 10);
+        due.says("14 of AUNTS: what 13 gives, twice.");
+        asks(x, 4, 0, 2 * (2 - 100), 14, 13, 10);
+        due.says("21 of CHAIRS: what 20 gives, and the ROOM");
+        asks(x, 0, 1, 0 + 1, 21, 20);
+        due.says("22 of TABLES: what 21 gives, less 1000.");
+        asks(x, 2, 1, 2 + 1 - 1000, 22, 21, 20);
+        asks(x, 2, 0, 2 + (2 + 1 - 1000), 11, 10, 22, 21, 20);
+        due.says("23 of PERSONS: what 20 gives, less SIZE.");
+        asks(x, 3, 1, 3 - (2 - 100), 23, 20, 13, 10);
+        asks(x, 4, 1, 4 - 2 * (2 - 100), 23, 20, 14, 13, 10);
+        due.says("24 of CLOCKS: what 21 gives, twice.");
+        asks(x, 1, 1, 2 * (1 + 1), 24, 21, 20);
     }
 
     private static void bodies() {

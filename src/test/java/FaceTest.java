@@ -8,6 +8,8 @@ import java.util.ArrayList;
 import java.util.List;
 import java.util.Set;
 import java.util.TreeSet;
+import java.util.regex.Matcher;
+import java.util.regex.Pattern;
 
 /** The class has the document's face and no other, and keeps to the rules of LANGUAGE.md. */
 public final class FaceTest {
@@ -28,6 +30,9 @@ public final class FaceTest {
         "throw", "try", "catch", "synchronized", "assert", "import", "package", "enum", "record",
         "double", "float", "Object", "Random", "Thread", "protected", "volatile", "native",
         "var", "hashCode", "toString", "System\\.(?!arraycopy)\\w+", "\\w+Exact", "->", "::"};
+    // All that the class takes from the library; each stands in rule 4.
+    private static final Set<String> LIBRARY = Set.of("Math.min", "Math.max", "Integer.bitCount",
+            "Integer.numberOfTrailingZeros", "System.arraycopy");
     private static final int LONGEST_METHOD = 60;
 
     private static final Due due = new Due();
@@ -106,6 +111,7 @@ public final class FaceTest {
     private static void words() throws IOException {
         due.about("the words");
         List<String> lines = Files.readAllLines(Path.of("src/main/java/LavaLodger.java"));
+        due.is("no sign beyond 127", String.join("", lines).chars().allMatch(c -> c < 128));
         StringBuilder code = new StringBuilder();
         int begun = -1;
         for (int i = 0; i < lines.size(); i++) {
@@ -128,5 +134,30 @@ public final class FaceTest {
             due.is("no " + word, text.split(pattern, -1).length, 1);
         }
         due.is("no text", text.indexOf('"'), -1);
+        library(text);
+        makesNothing(text);
+    }
+
+    private static void library(String text) {
+        Matcher used = Pattern.compile("\\b(Math|Integer|Long|System|Arrays|String|List)\\.\\w+")
+                .matcher(text);
+        while (used.find()) {
+            due.is(used.group() + " is one of what is used", LIBRARY.contains(used.group()));
+        }
+    }
+
+    // Every object is made as a field or in a constructor, so that no call makes one.
+    private static void makesNothing(String text) {
+        boolean inConstructor = false;
+        for (String line : text.split("\n")) {
+            if (line.matches(" {4}(public | {4})[A-Z]\\w+\\(.*\\) \\{")) {
+                inConstructor = true;
+            }
+            boolean isField = line.matches(" {4}( {4})?(private )?final \\w+(\\[\\])* \\w+ = new .*;");
+            due.is("made by a call: " + line, !line.contains(" new ") || isField || inConstructor);
+            if (line.matches(" {4}( {4})?\\}")) {
+                inConstructor = false;
+            }
+        }
     }
 }

@@ -23,6 +23,7 @@ public final class RefusalsTest {
 
     public static void main(String[] args) {
         isBusy();
+        numbers();
         withoutStreet();
         rows();
         told();
@@ -120,6 +121,21 @@ public final class RefusalsTest {
         due.is(call + " is not refused", answer > NONE || answer == NONE);
         due.is("status() behind " + call, x.status(), status);
         staysBusy(call, x, was);
+    }
+
+    private static void numbers() {
+        due.says("then FINDINGS, of several the first in time: -1000010 less 1 NULL (a ROW that is missing), "
+                + "2 PLACE (no such place of a ROW), 3 KIND (a THING that is not that), 4 SIZE (fewer "
+                + "than none), 5 STORE (ROWS of two LANES).");
+        due.is("NONE", LavaLodger.NONE, -1000000);
+        due.is("BAD", LavaLodger.BAD, -1000001);
+        due.is("STATE", LavaLodger.STATE, -1000002);
+        due.is("FULL", LavaLodger.FULL, -1000003);
+        refused("NULL", x -> x.drop(MISSING), -1000011);
+        refused("PLACE", x -> x.set(BYTES, 3, 0), -1000012);
+        refused("KIND", x -> x.as(STANDS, 5), -1000013);
+        refused("SIZE", x -> x.row(BYTES, 0, -1), -1000014);
+        refused("STORE", x -> x.copy(BYTES, 0, INTS, 0, 1), -1000015);
     }
 
     // ---- no STREET

@@ -19,6 +19,7 @@ public final class StreetEdgesTest {
         readAnew();
         fed();
         flows();
+        oneBehindTheOther();
         road();
         whoGoes();
         tablesByDays();
@@ -311,6 +312,39 @@ public final class StreetEdgesTest {
         LavaLodger dry = Due.told("v0,60;r9;r0;r0;c2,9;");
         dry.days(1);
         lies("without lava nothing goes on", dry, 0, 0, 0);
+    }
+
+    private static void oneBehindTheOther() {
+        due.says("2 from ROOM 0 on, one behind the other:");
+        // What comes to a ROOM goes on from it on the same DAY, down to THE ROAD.
+        LavaLodger down = Due.told("v1,1;r9;r7;r5;r3;c0,9;");
+        down.days(1);
+        due.is("1 has gone all the way", down.count(4), 0);
+        // What goes on from the next ROOM makes no place for this one till the next DAY.
+        LavaLodger x = flat("c2,9;");
+        x.feeding(8);
+        x.days(1);
+        lies("8 on the first day", x, 4, 2, 1);
+        x.feeding(0);
+        x.days(1);
+        lies("what was left of it on the second", x, 3, 2, 1);
+        due.says("WALLS 0, 1, ..: WALL k between ROOM k and the next one");
+        int[][] held = {{8, 0, 0}, {4, 4, 0}, {4, 2, 2}};
+        for (int w = 0; w < 3; w++) {
+            LavaLodger walled = flat("c2,9;");
+            walled.feeding(8);
+            walled.wall(w, 9);
+            walled.days(1);
+            lies("wall " + w, walled, held[w]);
+        }
+        due.says("DAY is 1 more.");
+        LavaLodger days = flat("c2,9;");
+        for (int day = 1; day <= 30; day++) {
+            days.days(1);
+            due.is("day", days.count(3), day);
+        }
+        days.days(24);
+        due.is("24 more", days.count(3), 54);
     }
 
     private static void flow(String what, int feed, int wall, int... lava) {
